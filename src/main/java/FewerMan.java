@@ -182,14 +182,13 @@ public final class FewerMan {
         if (refusal(one, other) != 0 || k < 1 || k > LONG_SERIES || isNoPart(part)) {
             return NO;
         }
+        // So many GAMES are too few for both to win k: who has k then had them first.
         int most = 2 * k - 1;
         long first = 0;
         duel.begins(room, one, other, true);
-        for (int games = 1; games <= most; games++) {
+        for (int i = 0; i < most; i++) {
             duel.goesOn();
             first = first * TEN + duel.takesWon(k);
-            // The other one has k now: these go no further, and count for nobody here.
-            duel.takesWon(games - k);
         }
         return partOf(first, powerOfTen(most), part);
     }

@@ -1,0 +1,131 @@
+import java.lang.reflect.Constructor;
+import java.lang.reflect.Field;
+import java.lang.reflect.Method;
+import java.lang.reflect.Modifier;
+import java.nio.file.Files;
+import java.nio.file.Path;
+import java.util.Arrays;
+import java.util.List;
+import java.util.Set;
+import java.util.TreeSet;
+import java.util.regex.Matcher;
+import java.util.regex.Pattern;
+
+/** The face of the document, and of LANGUAGE.md what can be seen from the class and its text. */
+public final class LanguageTest {
+    private static final String[] FACE = {
+        "int feed(int)", "int inn()", "int player(int,int)", "int of(int,int)", "int men(int,int)",
+        "int row(int,int,int)", "int told(int)", "int push(int,int)", "int odds(int,int)",
+        "int play(int,int,boolean)", "long wins(int,int,int,int,int)", "long mean(int,int,int,int)",
+        "long series(int,int,int,int)", "long ends(int,int,int,int)", "int even(int,int)",
+        "long purpose(int,int,int,int)", "int loses(int,int,int)", "int order(int,int,int)",
+        "long orderMean(int,int,int)", "long stakes(int,int,int,int)", "long table(int,int,int)",
+        "int book(int,int,boolean)", "int likely(int)", "int says(int)", "int tale(int)", "int looked()",
+        "int act(int,int,int)", "int trace(int)", "int as(int,int)", "int image()", "int undo()", "int count(int)"};
+
+    private LanguageTest() {
+    }
+
+    public static void main(String[] args) throws Exception {
+        face();
+        classes();
+        text(Files.readString(Path.of("src/main/java/FewerMan.java")));
+        Check.end("LanguageTest");
+    }
+
+    private static void face() {
+        Class<?> face = FewerMan.class;
+        Check.due("public and final", face.getModifiers(), Modifier.PUBLIC | Modifier.FINAL);
+        Set<String> methods = new TreeSet<>();
+        Set<String> names = new TreeSet<>();
+        for (Method m : face.getDeclaredMethods()) {
+            if (Modifier.isPublic(m.getModifiers())) {
+                Check.due("modifiers of " + m, m.getModifiers(), Modifier.PUBLIC);
+                methods.add(m.toString().replace("public ", "").replace("FewerMan.", ""));
+                names.add(m.getName());
+            }
+        }
+        Check.due("the face", methods.toString(), new TreeSet<>(Arrays.asList(FACE)).toString());
+        for (Method m : face.getDeclaredMethods()) {
+            if (!Modifier.isPublic(m.getModifiers())) {
+                Check.due("private: " + m, Modifier.isPrivate(m.getModifiers()) ? 1 : 0, 1);
+                Check.due("bears a name of the face: " + m, names.contains(m.getName()) ? 1 : 0, 0);
+            }
+        }
+        Set<String> constants = new TreeSet<>();
+        for (Field f : face.getDeclaredFields()) {
+            if (!Modifier.isPrivate(f.getModifiers())) {
+                Check.due("modifiers of " + f, f.getModifiers(), Modifier.PUBLIC | Modifier.STATIC | Modifier.FINAL);
+                constants.add(f.getType() + " " + f.getName());
+            }
+        }
+        Check.due("the constants", constants.toString(), "[int BAD, int FULL, int NONE, int STATE, long NO]");
+        Constructor<?>[] constructors = face.getDeclaredConstructors();
+        Check.due("constructors", constructors.length, 1);
+        Check.due("the constructor", constructors[0].getModifiers(), Modifier.PUBLIC);
+        Check.due("the constructor", constructors[0].getParameterCount(), 0);
+    }
+
+    private static void classes() {
+        Class<?>[] inside = FewerMan.class.getDeclaredClasses();
+        Check.due("at most twelve classes", inside.length < 12 ? 1 : 0, 1);
+        for (Class<?> c : inside) {
+            Check.due("static: " + c, Modifier.isStatic(c.getModifiers()) ? 1 : 0, 1);
+            Check.due("not public: " + c, Modifier.isPublic(c.getModifiers()) ? 1 : 0, 0);
+            members(c);
+        }
+        members(FewerMan.class);
+    }
+
+    private static void members(Class<?> c) {
+        int fields = 0;
+        for (Field f : c.getDeclaredFields()) {
+            if (Modifier.isStatic(f.getModifiers())) {
+                Check.due("final: " + f, Modifier.isFinal(f.getModifiers()) ? 1 : 0, 1);
+            } else {
+                fields++;
+            }
+        }
+        Check.due("fields of " + c + ": " + fields, fields <= 20 ? 1 : 0, 1);
+        for (Method m : c.getDeclaredMethods()) {
+            Check.due("parameters of " + m, m.getParameterCount() <= 7 ? 1 : 0, 1);
+            Check.due("synthetic: " + m, m.isSynthetic() ? 1 : 0, 0);
+        }
+    }
+
+    private static void text(String source) {
+        String code = source.replaceAll("(?s)/\\*.*?\\*/", "").replaceAll("//[^\n]*", "");
+        List<String> words = List.of("throw", "throws", "try", "catch", "finally", "synchronized", "assert", "import",
+            "package", "protected", "float", "double", "record", "enum", "volatile", "transient", "native", "yield");
+        for (String word : words) {
+            Check.due("the word " + word, Pattern.compile("\\b" + word + "\\b").matcher(code).find() ? 1 : 0, 0);
+        }
+        for (String sign : new String[] {"->", "::", "Exact(", "\"", "@", "static {", "hashCode", "equals", "toString"}) {
+            Check.due("the sign " + sign, code.contains(sign) ? 1 : 0, 0);
+        }
+        Matcher calls = Pattern.compile("\\b(Math|System|Integer|Long|Arrays)\\.(\\w+)").matcher(code);
+        Set<String> allowed = Set.of("Math.max", "Math.min", "Math.abs", "System.arraycopy", "Integer.bitCount",
+            "Long.MIN_VALUE");
+        while (calls.find()) {
+            Check.due("the call " + calls.group(), allowed.contains(calls.group()) ? 1 : 0, 1);
+        }
+        for (int i = 0; i < source.length(); i++) {
+            Check.due("a sign of the text at " + i, source.charAt(i) < 128 ? 1 : 0, 1);
+        }
+        methodLengths(source.split("\n"));
+    }
+
+    /** A method begins with a line of 4 or 8 blanks that ends with { and ends with } under that. */
+    private static void methodLengths(String[] lines) {
+        for (int i = 0; i < lines.length; i++) {
+            Matcher begins = Pattern.compile("^( {4}| {8})[a-z].*\\) \\{$").matcher(lines[i]);
+            if (begins.find()) {
+                int end = i;
+                while (!lines[end].equals(begins.group(1) + "}")) {
+                    end++;
+                }
+                Check.due("lines of " + lines[i].trim() + " " + (end - i + 1), end - i + 1 <= 60 ? 1 : 0, 1);
+            }
+        }
+    }
+}
