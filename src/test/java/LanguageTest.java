@@ -113,6 +113,19 @@ public final class LanguageTest {
             Check.due("a sign of the text at " + i, source.charAt(i) < 128 ? 1 : 0, 1);
         }
         methodLengths(source.split("\n"));
+        whatIsMade(code.split("\n"));
+    }
+
+    /** All rows are made with the object; later only an INN that was read is new, and its steps. */
+    private static void whatIsMade(String[] lines) {
+        Set<String> later = Set.of("room.inn = new Inn(reader);", "code = new int[read.codeSize];");
+        Pattern field = Pattern.compile("^( {4}| {8})(private )?(final )?[\\w\\[\\]]+ \\w+ = new [^;]*;$");
+        for (String line : lines) {
+            if (line.contains("new ")) {
+                boolean good = later.contains(line.trim()) || field.matcher(line).find();
+                Check.due("made by a call: " + line.trim(), good ? 1 : 0, 1);
+            }
+        }
     }
 
     /** A method begins with a line of 4 or 8 blanks that ends with { and ends with } under that. */
