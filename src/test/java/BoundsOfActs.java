@@ -1,3 +1,6 @@
+import java.util.List;
+import java.util.function.ToLongFunction;
+
 /** Sentence by sentence: ACTS, THE TRACE, KINDS taken for others, THE IMAGE, how many (promises 28 to 33). */
 final class BoundsOfActs {
     private static final int NONE = FewerMan.NONE, STATE = FewerMan.STATE, FULL = FewerMan.FULL;
@@ -22,6 +25,7 @@ final class BoundsOfActs {
         undo();
         count();
         manyCalls();
+        onlyWhatIsTold();
     }
 
     /** Five players of all KINDS but 0 and 3, each with its number as told, and v as told. */
@@ -464,5 +468,67 @@ final class BoundsOfActs {
             Check.due("a FAULT " + i, i % 2 == 1 ? y.feed('l') : y.inn(), i % 2 == 1 ? 1 : -11);
         }
         Check.due("the 512th", x.inn(), -11);
+    }
+
+    /** What each call changes, by the places of parts(); all else stays. */
+    private static void onlyWhatIsTold() {
+        Check.aboutNone();
+        only("feed", x -> x.feed('x'), "tape");
+        only("inn", x -> x.inn(), "tape inns less more push says looked");
+        only("inn by a FAULT", x -> x.feed('?') > 0 ? x.inn() : 0, "tape");
+        only("player", x -> x.player(3, 9), "players KIND v MEN ROW push says");
+        only("men", x -> x.men(2, 19), "MEN push says");
+        only("row", x -> x.row(0, 1, 0), "ROW push");
+        only("play", x -> x.play(1, 2, true), "MEN GAME push says looked");
+        only("book", x -> x.book(0, 1, true), "BOOK says looked");
+        only("book -1", x -> x.book(-1, 0, true), "BOOK says looked");
+        only("tale", x -> x.tale(9), "TALES looked");
+        only("tale -1", x -> x.tale(-1), "TALES looked");
+        only("act", x -> x.act(0, 0, 1), "ran trace");
+        only("act of nobody", x -> x.act(9, 0, 1), "ran trace");
+        only("no act", x -> x.act(0, 9, 1), "ran trace");
+        only("image", x -> x.image(), "");
+    }
+
+    private static void only(String call, ToLongFunction<FewerMan> does, String may) {
+        FewerMan x = full();
+        String[] before = parts(x);
+        does.applyAsLong(x);
+        String[] behind = parts(x);
+        for (int i = 0; i < before.length; i++) {
+            String name = before[i].substring(0, before[i].indexOf(':'));
+            if (!List.of(may.split(" ")).contains(name)) {
+                Check.due(call + " leaves " + name, behind[i], before[i]);
+            }
+        }
+    }
+
+    private static String[] parts(FewerMan x) {
+        int players = x.count(0);
+        StringBuilder[] each = new StringBuilder[6];
+        String[] names = {"KIND:", "v:", "MEN:", "ROW:", "push:", "says:"};
+        for (int i = 0; i < 6; i++) {
+            each[i] = new StringBuilder(names[i]);
+        }
+        for (int p = 0; p < players; p++) {
+            for (int what = 0; what < 3; what++) {
+                each[what].append(' ').append(x.of(p, what));
+            }
+            for (int k = 0; k < 4 && x.of(p, 0) == 6; k++) {
+                int was = x.row(p, k, 0);
+                x.row(p, k, was);
+                each[3].append(' ').append(was);
+            }
+            each[4].append(' ').append(x.push(p, (p + 1) % players));
+            each[5].append(' ').append(p < 4 ? x.says(p) : 0);
+        }
+        StringBuilder trace = new StringBuilder("trace:");
+        for (int i = 0; i < 20; i++) {
+            trace.append(' ').append(x.trace(i));
+        }
+        return new String[] {"players: " + players, each[0].toString(), each[1].toString(), each[2].toString(),
+            each[3].toString(), each[4].toString(), each[5].toString(), trace.toString(), "GAME: " + x.told(0),
+            "less: " + x.told(1), "more: " + x.told(2), "inns: " + x.count(1), "BOOK: " + x.count(2),
+            "TALES: " + x.count(3), "tape: " + x.count(4), "ran: " + x.count(5), "looked: " + x.looked()};
     }
 }

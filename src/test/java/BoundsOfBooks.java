@@ -155,9 +155,17 @@ final class BoundsOfBooks {
         z.book(0, 1, true);
         // A PRIZE one at GAME 2 is not as SLY by strength 0 alone: 5 of ten; else 5 + v - 9 of ten: 5 with 9, too.
         Check.due("KINDS by that strength, too", z.likely(0), 0);
+        FewerMan u = alike(2);
+        u.play(0, 1, true);
+        u.play(1, 0, true);
+        Check.inn(u, "less 0;more 0;lift 3 p=0&g=3");
+        u.book(0, 1, true);
+        u.book(0, 1, false);
+        // GAME goes on in BOOK: (5 + d) at GAME 2, (2 - d) at GAME 3, alike with 1 and 2 less.
+        Check.due("GAME goes on", u.likely(0), 2);
         Check.sentence("LIKELY. NONE.");
         for (int nobody : new int[] {MIN, -1, 2, 5, 32, MAX}) {
-            Check.refused("player " + nobody, () -> booked(3), u -> u.likely(nobody), NONE);
+            Check.refused("player " + nobody, () -> booked(3), w -> w.likely(nobody), NONE);
         }
     }
 
