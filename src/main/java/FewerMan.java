@@ -799,43 +799,44 @@ public final class FewerMan {
 
         /** T. */
         private boolean both(int open) {
-            boolean good = one(open);
+            boolean good = one(this, open);
             for (int i = 0; i < SIGNS && good && sign('&'); i++) {
-                good = one(open);
+                good = one(this, open);
                 put(Inn.AND);
             }
             return good;
         }
 
         /** F. */
-        private boolean one(int open) {
-            boolean opens = peek() == '!' || peek() == '(';
+        private static boolean one(Reader read, int open) {
+            int first = read.peek();
+            boolean opens = first == '!' || first == '(';
             if (opens && open >= OPEN) {
                 return false;
             }
-            if (sign('(')) {
-                return either(open + 1) && sign(')');
+            if (read.sign('(')) {
+                return read.either(open + 1) && read.sign(')');
             }
-            if (sign('!')) {
-                boolean good = one(open + 1);
-                put(Inn.NOT);
+            if (read.sign('!')) {
+                boolean good = one(read, open + 1);
+                read.put(Inn.NOT);
                 return good;
             }
-            int about = aboutOf(peek());
+            int about = aboutOf(first);
             if (about < 0) {
                 return false;
             }
-            at++;
-            int comparison = comparisonOf(peek());
+            read.at++;
+            int comparison = comparisonOf(read.peek());
             if (comparison < 0) {
                 return false;
             }
-            at++;
-            int n = number();
+            read.at++;
+            int n = read.number();
             if (n < 0) {
                 return false;
             }
-            put(Inn.testOf(about, comparison, n));
+            read.put(Inn.testOf(about, comparison, n));
             return true;
         }
 
@@ -1201,9 +1202,9 @@ public final class FewerMan {
             i = itsNumber;
             v = itsV;
             switch (act) {
-                case 0: return moves(kind, x);
-                case 1: return bets(kind, x);
-                case 2: return tells(kind, x);
+                case 0: return moves(this, kind, x);
+                case 1: return bets(this, kind, x);
+                case 2: return tells(this, kind, x);
                 default: return 0;
             }
         }
@@ -1216,46 +1217,46 @@ public final class FewerMan {
         }
 
         /** The body that a KIND has, or the next one above; a body's super goes up the KINDS, which end. */
-        private int moves(int from, int x) {
+        private static int moves(Acts its, int from, int x) {
             switch (MOVES[from]) {
                 case MASTER:
-                    begins(11);
-                    return moves(ABOVE[MASTER], x * 3);
+                    its.begins(11);
+                    return moves(its, ABOVE[MASTER], x * 3);
                 case PRIZE:
-                    begins(51);
-                    return moves(ABOVE[PRIZE], x) ^ i;
+                    its.begins(51);
+                    return moves(its, ABOVE[PRIZE], x) ^ its.i;
                 default:
-                    begins(1);
-                    return x + i;
+                    its.begins(1);
+                    return x + its.i;
             }
         }
 
-        private int bets(int from, int x) {
+        private static int bets(Acts its, int from, int x) {
             switch (BETS[from]) {
                 case SLY:
-                    begins(21);
-                    return -bets(ABOVE[SLY], x);
+                    its.begins(21);
+                    return -bets(its, ABOVE[SLY], x);
                 case TOLD:
-                    begins(61);
-                    return bets(ABOVE[TOLD], x) + v;
+                    its.begins(61);
+                    return bets(its, ABOVE[TOLD], x) + its.v;
                 default:
-                    begins(2);
-                    return moves(kind, x) - v;
+                    its.begins(2);
+                    return moves(its, its.kind, x) - its.v;
             }
         }
 
-        private int tells(int from, int x) {
+        private static int tells(Acts its, int from, int x) {
             switch (TELLS[from]) {
                 case NEW:
-                    begins(31);
-                    return tells(ABOVE[NEW], x) ^ 7;
+                    its.begins(31);
+                    return tells(its, ABOVE[NEW], x) ^ 7;
                 case GRAND:
-                    begins(41);
-                    int above = tells(ABOVE[GRAND], x - 1);
-                    return above + moves(kind, 2);
+                    its.begins(41);
+                    int above = tells(its, ABOVE[GRAND], x - 1);
+                    return above + moves(its, its.kind, 2);
                 default:
-                    begins(3);
-                    return bets(kind, x) * 2;
+                    its.begins(3);
+                    return bets(its, its.kind, x) * 2;
             }
         }
     }
