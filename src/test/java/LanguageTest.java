@@ -1,9 +1,11 @@
+import java.lang.reflect.Array;
 import java.lang.reflect.Constructor;
 import java.lang.reflect.Field;
 import java.lang.reflect.Method;
 import java.lang.reflect.Modifier;
 import java.nio.file.Files;
 import java.nio.file.Path;
+import java.util.ArrayList;
 import java.util.Arrays;
 import java.util.List;
 import java.util.Set;
@@ -29,6 +31,7 @@ public final class LanguageTest {
     public static void main(String[] args) throws Exception {
         face();
         classes();
+        room();
         text(Files.readString(Path.of("src/main/java/FewerMan.java")));
         Check.end("LanguageTest");
     }
@@ -93,6 +96,42 @@ public final class LanguageTest {
         }
     }
 
+    /** What an object holds is so small that each of 512 calls could make a new one in the room that there is. */
+    private static void room() throws Exception {
+        List<Object> made = new ArrayList<>(List.of(new FewerMan()));
+        long parts = 0;
+        for (int i = 0; i < made.size(); i++) {
+            Object one = made.get(i);
+            if (one.getClass().isArray()) {
+                parts += Array.getLength(one);
+                for (int k = 0; one instanceof Object[] && k < Array.getLength(one); k++) {
+                    comes(made, Array.get(one, k));
+                }
+                continue;
+            }
+            for (Field f : one.getClass().getDeclaredFields()) {
+                if (!Modifier.isStatic(f.getModifiers())) {
+                    parts++;
+                    f.setAccessible(true);
+                    comes(made, f.getType().isPrimitive() ? null : f.get(one));
+                }
+            }
+        }
+        Check.due("objects of a new one: " + made.size(), made.size() > 9 && made.size() * 512 <= 600_000 ? 1 : 0, 1);
+        Check.due("parts of a new one: " + parts, parts > 99 && parts * 512 <= 7_300_000 ? 1 : 0, 1);
+    }
+
+    private static void comes(List<Object> made, Object one) {
+        for (Object other : made) {
+            if (one == other) {
+                return;
+            }
+        }
+        if (one != null) {
+            made.add(one);
+        }
+    }
+
     private static void text(String source) {
         String code = source.replaceAll("(?s)/\\*.*?\\*/", "").replaceAll("//[^\n]*", "");
         List<String> words = List.of("throw", "throws", "try", "catch", "finally", "synchronized", "assert", "import",
@@ -103,17 +142,37 @@ public final class LanguageTest {
         for (String sign : new String[] {"->", "::", "Exact(", "\"", "@", "static {", "hashCode", "equals", "toString"}) {
             Check.due("the sign " + sign, code.contains(sign) ? 1 : 0, 0);
         }
-        Matcher calls = Pattern.compile("\\b(Math|System|Integer|Long|Arrays)\\.(\\w+)").matcher(code);
+        Matcher library = Pattern.compile("\\b(Math|System|Integer|Long|Arrays)\\.(\\w+)").matcher(code);
         Set<String> allowed = Set.of("Math.max", "Math.min", "Math.abs", "System.arraycopy", "Integer.bitCount",
             "Long.MIN_VALUE");
-        while (calls.find()) {
-            Check.due("the call " + calls.group(), allowed.contains(calls.group()) ? 1 : 0, 1);
+        while (library.find()) {
+            Check.due("the call " + library.group(), allowed.contains(library.group()) ? 1 : 0, 1);
         }
         for (int i = 0; i < source.length(); i++) {
             Check.due("a sign of the text at " + i, source.charAt(i) < 128 ? 1 : 0, 1);
         }
         methodLengths(source.split("\n"));
+        CallsOfText calls = new CallsOfText(code);
+        selves(calls);
+        depth(calls);
         whatIsMade(code.split("\n"));
+    }
+
+    /** Rule 8: a method that calls itself is private and static. */
+    private static void selves(CallsOfText calls) {
+        for (String method : calls.methods()) {
+            boolean good = !calls.of(method).contains(method) || calls.head(method).startsWith("private static ");
+            Check.due("calls itself: " + method, good ? 1 : 0, 1);
+        }
+    }
+
+    /** Rule 11: calls go at most eight deep, even if those that call one another count once each. */
+    private static void depth(CallsOfText calls) {
+        Check.due("methods of the text", calls.methods().size() > 80 ? 1 : 0, 1);
+        for (String method : calls.methods()) {
+            List<String> deepest = calls.deepest(method);
+            Check.due("deep: " + deepest, deepest.size() <= 8 ? 1 : 0, 1);
+        }
     }
 
     /** All rows are made with the object; later only an INN that was read is new, and its steps. */
